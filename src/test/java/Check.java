@@ -1,0 +1,61 @@
+/** Counts the answers that are due and those that are not; a test ends with close(). */
+final class Check {
+
+    interface Call {
+        void run();
+    }
+
+    private int passed = 0;
+    private int failed = 0;
+
+    void due(long got, long want) {
+        judge(got == want, String.valueOf(got), String.valueOf(want));
+    }
+
+    void letter(char got, char want) {
+        judge(got == want, String.valueOf(got), String.valueOf(want));
+    }
+
+    void figure(double got, double want) {
+        judge(got == want, String.valueOf(got), String.valueOf(want));
+    }
+
+    void text(String got, String want) {
+        judge(got.equals(want), got, want);
+    }
+
+    void refused(Class<? extends RuntimeException> want, Call call) {
+        String got = "no exception";
+        try {
+            call.run();
+        } catch (RuntimeException thrown) {
+            got = thrown.getClass().getName();
+        }
+        judge(got.equals(want.getName()), got, want.getName());
+    }
+
+    void close() {
+        System.out.println(passed + " passed, " + failed + " failed");
+        if (failed != 0) {
+            System.exit(1);
+        }
+    }
+
+    private void judge(boolean right, String got, String want) {
+        if (right) {
+            passed++;
+            return;
+        }
+        failed++;
+        System.out.println(place() + " answered " + got + ", due is " + want);
+    }
+
+    private static String place() {
+        return StackWalker.getInstance().walk(frames -> frames
+                .filter(frame -> !frame.getClassName().equals("Check"))
+                .findFirst()
+                .map(frame -> frame.getClassName() + "." + frame.getMethodName()
+                        + ", line " + frame.getLineNumber() + ":")
+                .orElse("somewhere:"));
+    }
+}
