@@ -24,14 +24,18 @@ final class Check {
         judge(got.equals(want), got, want);
     }
 
+    /** The class has to throw it by a statement of its own; the library or the machine must not. */
     void refused(Class<? extends RuntimeException> want, Call call) {
+        String due = want.getName() + " of TerminalYard";
         String got = "no exception";
         try {
             call.run();
         } catch (RuntimeException thrown) {
-            got = thrown.getClass().getName();
+            StackTraceElement[] trace = thrown.getStackTrace();
+            got = thrown.getClass().getName() + " of "
+                    + (trace.length == 0 ? "the machine" : trace[0].getClassName());
         }
-        judge(got.equals(want.getName()), got, want.getName());
+        judge(got.equals(due), got, due);
     }
 
     void close() {

@@ -13,6 +13,7 @@ final class MinutesTest {
         promise26LastMinuteIsCharged();
         promise26IdleBeforeHard();
         promise26SeatIsFreeAgain();
+        promise26FirstLimits();
         promise26Refused();
         promise26LastTime();
         promise27Time();
@@ -119,6 +120,25 @@ final class MinutesTest {
         check.due(yard.free(0), 1);
         check.letter(yard.machine(0), 'u');
         check.due(yard.logIn(1, 0), 1);
+    }
+
+    private static void promise26FirstLimits() {
+        TerminalYard yard = yard(1000);
+        yard.logIn(0, 0);
+        yard.logIn(1, 1);
+        check.due(yard.pass(29), 0);
+        check.due(yard.use(0), 29);
+        check.due(yard.pass(1), 1);
+        check.letter(yard.state(1), 'i');
+        for (int time = 0; time < 10; time++) {
+            check.due(yard.pass(20), 0);
+            check.due(yard.use(0), time == 0 ? 21 : 20);
+        }
+        check.due(yard.endsIn(0), 10);
+        check.due(yard.pass(9), 0);
+        check.due(yard.pass(1), 1);
+        check.letter(yard.state(0), 'x');
+        check.due(yard.charged(0, 0), 240);
     }
 
     private static void promise26Refused() {

@@ -29,6 +29,7 @@ final class SessionsTest {
         promise19Refused();
         promise20Print();
         promise20PrintUsesTheSession();
+        promise20DepartmentOfTheUserPays();
         promise20Refused();
         promise21State();
         promise22MachineOf();
@@ -318,6 +319,21 @@ final class SessionsTest {
         yard.pass(3);
         check.refused(ARGUMENT, () -> yard.print(0, 100));
         check.due(yard.use(0), 3);
+    }
+
+    private static void promise20DepartmentOfTheUserPays() {
+        TerminalYard yard = yard();
+        yard.buy(1, 3);
+        yard.assign(1, 1);
+        yard.logIn(0, 0);
+        yard.logIn(1, 0);
+        yard.takeOver(0, 1);
+        yard.takeOver(1, 0);
+        check.refused(SHORT, () -> yard.print(0, 2));
+        check.due(yard.print(0, 1), 1);
+        check.due(yard.print(1, 2), 2);
+        check.due(yard.minutes(1), 1);
+        check.due(yard.minutes(0), 4996);
     }
 
     private static void promise20Refused() {
