@@ -7,6 +7,12 @@ final class Check {
 
     private int passed = 0;
     private int failed = 0;
+    private String topic = "";
+
+    /** What the checks are about that follow; a failure tells it. */
+    void about(String following) {
+        topic = " (" + following + ")";
+    }
 
     void due(long got, long want) {
         judge(got == want, String.valueOf(got), String.valueOf(want));
@@ -51,15 +57,15 @@ final class Check {
             return;
         }
         failed++;
-        System.out.println(place() + " answered " + got + ", due is " + want);
+        System.out.println(place() + topic + " answered " + got + ", due is " + want);
     }
 
     private static String place() {
         return StackWalker.getInstance().walk(frames -> frames
-                .filter(frame -> !frame.getClassName().equals("Check"))
+                .filter(frame -> !frame.getClassName().matches("Check|Sentences"))
                 .findFirst()
                 .map(frame -> frame.getClassName() + "." + frame.getMethodName()
-                        + ", line " + frame.getLineNumber() + ":")
-                .orElse("somewhere:"));
+                        + ", line " + frame.getLineNumber())
+                .orElse("somewhere"));
     }
 }

@@ -137,8 +137,8 @@ final class FaceTest {
     }
 
     private static void theText(String[] args) throws IOException {
-        check.due(args.length, 1);
-        if (args.length != 1) {
+        check.text(args.length > 0 ? "" : "no path of the class", "");
+        if (args.length == 0) {
             return;
         }
         String text = Files.readString(Path.of(args[0]), StandardCharsets.ISO_8859_1);

@@ -1,5 +1,6 @@
+import java.util.ArrayList;
+import java.util.List;
 import java.util.function.Consumer;
-import java.util.function.ToDoubleFunction;
 
 /**
  * A call that throws changes nothing: every refused call is made on a yard of its own, and then
@@ -57,16 +58,16 @@ final class RefusalTest {
         check.letter(clean.machine(3), 'm');
         check.letter(clean.state(1), 't');
         check.letter(clean.state(3), 'o');
-        String due = light(clean);
+        String due = Light.on(clean);
         for (Consumer<TerminalYard> call : refusedByBusy()) {
             TerminalYard yard = busy();
             check.due(throwsSomething(yard, call), 1);
-            check.text(light(yard), due);
+            check.text(Light.on(yard), due);
         }
     }
 
-    private static java.util.List<Consumer<TerminalYard>> refusedByBusy() {
-        java.util.List<Consumer<TerminalYard>> calls = new java.util.ArrayList<>();
+    private static List<Consumer<TerminalYard>> refusedByBusy() {
+        List<Consumer<TerminalYard>> calls = new ArrayList<>();
         calls.add(y -> y.addMachine(3, 0, 1));
         calls.add(y -> y.addMachine(0, 3, 1));
         calls.add(y -> y.addMachine(0, 0, 5));
@@ -150,17 +151,17 @@ final class RefusalTest {
     }
 
     private static void fullYard() {
-        java.util.List<Consumer<TerminalYard>> calls = new java.util.ArrayList<>();
+        List<Consumer<TerminalYard>> calls = new ArrayList<>();
         calls.add(y -> y.addMachine(0, 0, 1));
         calls.add(y -> y.buy(1, 1));
         calls.add(y -> y.logIn(1, 0));
         calls.add(y -> y.pass(3));
         calls.add(y -> y.pass(60));
-        String due = light(full());
+        String due = Light.on(full());
         for (Consumer<TerminalYard> call : calls) {
             TerminalYard yard = full();
             check.due(throwsSomething(yard, call), 1);
-            check.text(light(yard), due);
+            check.text(Light.on(yard), due);
         }
     }
 
@@ -171,80 +172,5 @@ final class RefusalTest {
         } catch (RuntimeException refused) {
             return 1;
         }
-    }
-
-    /** All that a yard answers to looks, and then to changes that show what no look shows. */
-    private static String light(TerminalYard yard) {
-        StringBuilder seen = new StringBuilder();
-        note(seen, yard, y -> y.time());
-        note(seen, yard, y -> y.pageShare());
-        note(seen, yard, y -> y.meanCharge());
-        for (int pool = 0; pool < 3; pool++) {
-            int asked = pool;
-            note(seen, yard, y -> y.next(asked));
-            note(seen, yard, y -> y.free(asked));
-        }
-        for (int department = 0; department < 4; department++) {
-            int asked = department;
-            note(seen, yard, y -> y.minutes(asked));
-            note(seen, yard, y -> y.minutesBySessions(asked));
-        }
-        for (int machine = 0; machine < 6; machine++) {
-            int asked = machine;
-            note(seen, yard, y -> y.machine(asked));
-        }
-        int[] sessions = {0, 1, 2, 3, 4, 5, 38, 39};
-        for (int session : sessions) {
-            lightSession(seen, yard, session);
-        }
-        lightUsersAndDebts(seen, yard);
-        for (int pool = 0; pool < 3; pool++) {
-            int asked = pool;
-            note(seen, yard, y -> y.setLimits(asked, 999, 999));
-        }
-        note(seen, yard, y -> y.addMachine(0, 0, 1));
-        note(seen, yard, y -> y.logIn(9, 0));
-        note(seen, yard, y -> y.pass(2));
-        return seen.toString();
-    }
-
-    private static void lightSession(StringBuilder seen, TerminalYard yard, int session) {
-        note(seen, yard, y -> y.state(session));
-        note(seen, yard, y -> y.machineOf(session));
-        note(seen, yard, y -> y.userOf(session));
-        for (int department = 0; department < 4; department++) {
-            int asked = department;
-            note(seen, yard, y -> y.charged(session, asked));
-        }
-        note(seen, yard, y -> y.endsIn(session));
-        note(seen, yard, y -> y.use(session));
-        note(seen, yard, y -> y.endsIn(session));
-        note(seen, yard, y -> y.print(session, 1));
-        note(seen, yard, y -> y.handBack(session));
-    }
-
-    private static void lightUsersAndDebts(StringBuilder seen, TerminalYard yard) {
-        for (int user = 0; user < 10; user++) {
-            int asked = user;
-            note(seen, yard, y -> y.assign(asked, 0));
-        }
-        for (int from = 0; from < 4; from++) {
-            int lender = from;
-            note(seen, yard, y -> y.buy(lender, 5000));
-            for (int to = 0; to < 4; to++) {
-                int debtor = to;
-                note(seen, yard, y -> y.lend(lender, debtor, 1));
-            }
-        }
-    }
-
-    private static void note(
-            StringBuilder seen, TerminalYard yard, ToDoubleFunction<TerminalYard> call) {
-        try {
-            seen.append(call.applyAsDouble(yard));
-        } catch (RuntimeException refused) {
-            seen.append(refused.getClass().getSimpleName());
-        }
-        seen.append(' ');
     }
 }
