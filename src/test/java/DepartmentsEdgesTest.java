@@ -45,6 +45,7 @@ final class DepartmentsEdgesTest {
         lendOutOfRangeOrTheSame();
         lendFewerMinutes();
         lendOverTheMostThatIsBought();
+        lendAgainAndAgain();
     }
 
     private static void giveBack() {
@@ -56,6 +57,7 @@ final class DepartmentsEdgesTest {
         giveBackOutOfRangeOrTheSame();
         giveBackOwesFewer();
         giveBackHasFewer();
+        giveBackOverTheMostThatIsBought();
     }
 
     private static void minutes() {
@@ -384,6 +386,25 @@ final class DepartmentsEdgesTest {
         check.refused(IllegalStateException.class, () -> yard.buy(2, 1));
     }
 
+    /** The department 0 has lent 5000 minutes 21 times, and the department 1 has them. */
+    private static TerminalYard lentOften() {
+        TerminalYard yard = stocks();
+        for (int time = 1; time <= 21; time++) {
+            yard.buy(0, 5000);
+            check.due(yard.lend(0, 1, 5000), 5000 * time);
+        }
+        return yard;
+    }
+
+    private static void lendAgainAndAgain() {
+        doc.says(11, "Returns what the second one owes to the first one.");
+        // nor does the promise name a greatest debt
+        TerminalYard yard = lentOften();
+        minutesAre(yard, 0, 105000, 0, 0);
+        check.due(yard.lend(1, 0, 1), 1);
+        check.due(yard.lend(0, 1, 1), 105001);
+    }
+
     /** The department 1 owes 30 to the department 0 and 8 to 2, and has 20; 0 owes 3 to 1. */
     private static TerminalYard owing() {
         TerminalYard yard = stocks(100, 0, 50);
@@ -524,6 +545,20 @@ final class DepartmentsEdgesTest {
         check.refused(UnsupportedOperationException.class, () -> yard.giveBack(1, 0, 1));
         yard.buy(1, 1);
         check.due(yard.giveBack(1, 0, 1), 9);
+    }
+
+    private static void giveBackOverTheMostThatIsBought() {
+        doc.says(12, "Gives minutes back.");
+        // as with lending, the promise names no greatest stock
+        TerminalYard yard = almostFull(99999);
+        yard.lend(2, 0, 5000);
+        yard.buy(2, 5000);
+        check.due(yard.giveBack(0, 2, 4999), 1);
+        minutesAre(yard, 1, 0, 104998, 0);
+        check.refused(IllegalStateException.class, () -> yard.buy(2, 1));
+        check.due(yard.giveBack(0, 2, 1), 0);
+        minutesAre(yard, 0, 0, 104999, 0);
+        check.due(lentOften().giveBack(1, 0, 5000), 100000);
     }
 
     private static void minutesAsKept() {

@@ -6,51 +6,21 @@ import java.lang.reflect.Modifier;
 import java.nio.charset.StandardCharsets;
 import java.nio.file.Files;
 import java.nio.file.Path;
-import java.util.Arrays;
+import java.util.ArrayList;
+import java.util.List;
 import java.util.Set;
 import java.util.TreeSet;
 import java.util.regex.Pattern;
 
 /**
  * The class has the face of the document and no other, and its text keeps to those rules of
- * LANGUAGE.md that can be read off the words. The first argument is the path of the text.
+ * LANGUAGE.md that can be read off the words. The first argument is the path of the text, the
+ * second one that of the document, from which the face is read.
  */
 final class FaceTest {
 
-    private static final String[] FACE = {
-        "int addMachine(int,int,int) IllegalArgumentException IllegalStateException",
-        "int setLimits(int,int,int) IllegalArgumentException",
-        "int drain(int) IndexOutOfBoundsException IllegalStateException",
-        "int putUp(int) IndexOutOfBoundsException IllegalStateException",
-        "char machine(int) IndexOutOfBoundsException",
-        "int next(int) IllegalArgumentException NoSuchElementException",
-        "int free(int) IllegalArgumentException",
-        "int assign(int,int) IllegalArgumentException",
-        "int buy(int,int) IllegalArgumentException IllegalStateException",
-        "int lend(int,int,int) IllegalArgumentException UnsupportedOperationException",
-        "int giveBack(int,int,int) IllegalArgumentException IllegalStateException"
-                + " UnsupportedOperationException",
-        "int minutes(int) IllegalArgumentException",
-        "int minutesBySessions(int) IllegalArgumentException",
-        "int logIn(int,int) IllegalArgumentException IllegalStateException"
-                + " UnsupportedOperationException NoSuchElementException",
-        "int logOut(int) IndexOutOfBoundsException IllegalStateException",
-        "int use(int) IndexOutOfBoundsException IllegalStateException",
-        "int takeOver(int,int) IndexOutOfBoundsException IllegalArgumentException"
-                + " IllegalStateException UnsupportedOperationException",
-        "int handBack(int) IndexOutOfBoundsException IllegalStateException",
-        "int print(int,int) IndexOutOfBoundsException IllegalArgumentException"
-                + " IllegalStateException UnsupportedOperationException",
-        "char state(int) IndexOutOfBoundsException",
-        "int machineOf(int) IndexOutOfBoundsException",
-        "int userOf(int) IndexOutOfBoundsException",
-        "int charged(int,int) IndexOutOfBoundsException IllegalArgumentException",
-        "int endsIn(int) IndexOutOfBoundsException IllegalStateException",
-        "int pass(int) IllegalArgumentException",
-        "int time()",
-        "float pageShare() ArithmeticException",
-        "double meanCharge() ArithmeticException",
-    };
+    private static final int CALLS = 28;
+    private static final int PROMISES = 29;
 
     private static final String[] NOT_IN_THE_TEXT = {
         "\\bcatch\\b", "\\btry\\b", "\\bfinally\\b", "\\bsynchronized\\b", "\\bassert\\b", "->", "::",
@@ -60,16 +30,34 @@ final class FaceTest {
     };
 
     private static final Check check = new Check();
+    /** The text of the class, with one blank for all white space between two words. */
+    private static String words = "";
+    private static List<String> document = List.of();
 
     public static void main(String[] args) throws IOException {
+        check.text(args.length > 1 ? "" : "no paths of the class and of the document", "");
+        if (args.length > 1) {
+            words = Files.readString(Path.of(args[0]), StandardCharsets.ISO_8859_1).replaceAll("\\s+", " ");
+            document = Files.readAllLines(Path.of(args[1]), StandardCharsets.UTF_8);
+        }
         theFace();
+        theFaceWordForWord();
+        theHeadsOfThePromises();
+        theHeadingsAheadOfTheCalls();
         nothingElseIsSeen();
         noPrivateMethodBearsAPublicName();
-        theText(args);
+        theText();
         check.close();
     }
 
     private static void theFace() {
+        Set<String> due = new TreeSet<>();
+        for (String declared : declaredInTheDocument()) {
+            if (!declared.equals("public TerminalYard()")) {
+                due.add(line(declared));
+            }
+        }
+        check.due(due.size(), CALLS);
         Set<String> got = new TreeSet<>();
         for (Method method : TerminalYard.class.getDeclaredMethods()) {
             if (Modifier.isPublic(method.getModifiers())) {
@@ -77,13 +65,83 @@ final class FaceTest {
                 got.add(line(method));
             }
         }
-        check.text(got.toString(), new TreeSet<>(Arrays.asList(FACE)).toString());
+        check.text(got.toString(), due.toString());
         int modifiers = TerminalYard.class.getModifiers();
         check.due(modifiers, Modifier.PUBLIC | Modifier.FINAL);
         Constructor<?>[] constructors = TerminalYard.class.getDeclaredConstructors();
         check.due(constructors.length, 1);
         check.due(constructors[0].getModifiers(), Modifier.PUBLIC);
         check.due(constructors[0].getParameterCount(), 0);
+    }
+
+    /** What stands in the class of 'The public face', without the semicolons. */
+    private static List<String> declaredInTheDocument() {
+        List<String> declared = new ArrayList<>();
+        for (String line : document) {
+            if (line.startsWith("    public ") && line.endsWith(";")) {
+                declared.add(line.substring(4, line.length() - 1));
+            }
+        }
+        return declared;
+    }
+
+    private static void theFaceWordForWord() {
+        check.due(document.contains("public final class TerminalYard {") ? 1 : 0, 1);
+        inTheText("public final class TerminalYard {");
+        for (String declared : declaredInTheDocument()) {
+            inTheText(declared + " {");
+        }
+    }
+
+    private static void theHeadsOfThePromises() {
+        int heads = 0;
+        for (int at = 0; at < document.size(); at++) {
+            if (document.get(at).startsWith("## Promise ")) {
+                String head = at + 2 < document.size() ? document.get(at + 2) : "";
+                check.text(head.matches("`[^`]+`: .*") ? "" : "no head: " + document.get(at), "");
+                inTheText("public " + head.replaceAll("^`|`: .*$", "") + " {");
+                heads++;
+            }
+        }
+        check.due(heads, PROMISES);
+    }
+
+    /** Each heading, and then its calls, in the order of the document. */
+    private static void theHeadingsAheadOfTheCalls() {
+        int at = 0;
+        int calls = 0;
+        for (String line : document) {
+            if (!line.startsWith("Ahead of the calls ")) {
+                continue;
+            }
+            String heading = line.replaceAll("^.* the interface says: |\\.$", "");
+            at = behind("// " + heading + " public ", at);
+            String[] parts = line.split("`");
+            for (int part = 1; part < parts.length; part += 2) {
+                at = behind(" " + parts[part] + "(", at);
+                calls++;
+            }
+        }
+        check.due(calls, CALLS);
+    }
+
+    private static int behind(String wanted, int from) {
+        int at = words.indexOf(wanted, from);
+        check.text(at < 0 ? "not in its place: " + wanted : "", "");
+        return at < 0 ? from : at + wanted.length() - 1;
+    }
+
+    private static void inTheText(String wanted) {
+        check.text(words.contains(wanted) ? "" : "not in the text: " + wanted, "");
+    }
+
+    /** As line(Method), from how the document declares it. */
+    private static String line(String declared) {
+        return declared
+                .replaceFirst("^public ", "")
+                .replaceAll("(?<=[(,]) ?([a-z]+) [A-Za-z]+(?=[,)])", "$1")
+                .replaceFirst(" throws ", " ")
+                .replace(", ", " ");
     }
 
     private static String line(Method method) {
@@ -136,17 +194,11 @@ final class FaceTest {
         }
     }
 
-    private static void theText(String[] args) throws IOException {
-        check.text(args.length > 0 ? "" : "no path of the class", "");
-        if (args.length == 0) {
-            return;
-        }
-        String text = Files.readString(Path.of(args[0]), StandardCharsets.ISO_8859_1);
+    private static void theText() {
         for (String pattern : NOT_IN_THE_TEXT) {
-            check.text(Pattern.compile(pattern).matcher(text).find() ? pattern : "", "");
+            check.text(Pattern.compile(pattern).matcher(words).find() ? pattern : "", "");
         }
-        Pattern imports = Pattern.compile("^import (?!java\\.util\\.(ArrayList|NoSuchElementException);$)",
-                Pattern.MULTILINE);
-        check.text(imports.matcher(text).find() ? "an import" : "", "");
+        Pattern imports = Pattern.compile("\\bimport (?!java\\.util\\.(ArrayList|NoSuchElementException);)");
+        check.text(imports.matcher(words).find() ? "an import" : "", "");
     }
 }

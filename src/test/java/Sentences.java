@@ -119,7 +119,7 @@ final class Sentences {
     }
 
     private void addTerms(String line) {
-        // these tell the comments of an interface, and nothing that a call could show
+        // these tell the headings in the class, which FaceTest looks at
         if (line.isBlank() || line.startsWith("Ahead of the calls ")) {
             return;
         }

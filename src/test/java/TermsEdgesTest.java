@@ -559,6 +559,19 @@ final class TermsEdgesTest {
         yard.takeOver(1, 7);
         check.due(yard.pass(1), 1);
         check.letter(yard.state(1), 'x');
+        // no use of any kind lets it begin anew
+        TerminalYard used = live(1, 500);
+        used.setLimits(0, 999, 10);
+        used.pass(6);
+        used.print(0, 1);
+        used.takeOver(0, 5);
+        used.pass(1);
+        used.handBack(0);
+        used.print(0, 1);
+        check.due(used.endsIn(0), 3);
+        check.due(used.pass(2), 0);
+        check.due(used.pass(1), 1);
+        check.letter(used.state(0), 'x');
         TerminalYard lowered = live(1, 500);
         lowered.pass(20);
         lowered.setLimits(0, 999, 5);
